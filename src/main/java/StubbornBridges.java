@@ -51,8 +51,11 @@ public final class StubbornBridges {
         if (live.bridgeCount >= MOST_BRIDGES) return TOO_MANY;
         history.keep(live);
         Bridge added = live.bridges[live.bridgeCount];
-        added.lead(from, to);
-        added.build(room, delay, pace);
+        added.from = from;
+        added.to = to;
+        added.room = room;
+        added.delay = delay;
+        added.pace = pace;
         live.bridgeCount++;
         return live.bridgeCount - 1;
     }
@@ -152,7 +155,10 @@ public final class StubbornBridges {
         int bridges = live.findPath(from, to);
         if (bridges == NONE) return NONE;
         int least = MOST_ROOM;
-        for (int i = 0; i < bridges; i++) least = Math.min(least, live.path[i].room);
+        for (int i = 0; i < bridges; i++) {
+            Bridge bridge = live.path[i];
+            if (bridge != null) least = Math.min(least, bridge.room);
+        }
         return least;
     }
 
@@ -329,6 +335,7 @@ public final class StubbornBridges {
             for (int i = 0; i < slices.length; i++) slices[i] = new Slice();
         }
 
+        /** Copies all rows, so that the bridges and parcels that there are not stay as new ones. */
         void copyFrom(World other) {
             tick = other.tick;
             bridgeCount = other.bridgeCount;
@@ -340,7 +347,7 @@ public final class StubbornBridges {
             joined = other.joined;
             System.arraycopy(other.dropped, 0, dropped, 0, dropped.length);
             for (int i = 0; i < nodes.length; i++) nodes[i].copyFrom(other.nodes[i]);
-            for (int i = 0; i < bridgeCount; i++) bridges[i].copyFrom(other.bridges[i]);
+            for (int i = 0; i < bridges.length; i++) bridges[i].copyFrom(other.bridges[i]);
             for (int i = 0; i < parcels.length; i++) parcels[i].copyFrom(other.parcels[i]);
             for (int i = 0; i < listed; i++) slices[i].copyFrom(other.slices[i]);
         }
@@ -687,22 +694,6 @@ public final class StubbornBridges {
         int from, to, room, delay, pace, turns;
         int came, lost, carried;
 
-        void lead(int start, int end) {
-            from = start;
-            to = end;
-        }
-
-        /** Also of a bridge that an undo took away: nothing of what it was stays. */
-        void build(int newRoom, int newDelay, int newPace) {
-            room = newRoom;
-            delay = newDelay;
-            pace = newPace;
-            turns = 0;
-            came = 0;
-            lost = 0;
-            carried = 0;
-        }
-
         void copyFrom(Bridge other) {
             from = other.from;
             to = other.to;
@@ -765,13 +756,12 @@ public final class StubbornBridges {
         boolean mayBeCut;
         int state, times, lost;
         int doneAt = NONE;
-        /** How many bytes are there; what the fields below hold counts only if there are some. */
+        /** How many bytes are there; if there are none, firstPut and the cells hold nothing of use. */
         int there;
         int firstPut, furthestEnd;
         int whole = NONE;
         final long[] cells = new long[MOST_BYTES / CELLS_IN_LONG + 1];
 
-        /** Also of a parcel that an undo took away: nothing of what it was stays. */
         void begin(int start, int end, int newSize, int newSeed, int how) {
             from = start;
             to = end;
@@ -779,14 +769,9 @@ public final class StubbornBridges {
             seed = newSeed;
             hops = how / 2;
             mayBeCut = how % 2 == 1;
-            state = ON_ITS_WAY;
-            times = 0;
-            lost = 0;
-            doneAt = NONE;
-            there = 0;
-            sum = 0;
-            for (int at = 0; at < size; at++) sum += byteOf(seed, at);
-            sum %= SUM_BASE;
+            int total = 0;
+            for (int at = 0; at < size; at++) total += byteOf(seed, at);
+            sum = total % SUM_BASE;
         }
 
         void copyFrom(Parcel other) {
@@ -824,7 +809,6 @@ public final class StubbornBridges {
         boolean fits(Slice slice) {
             int end = slice.offset + slice.length;
             if (end > MOST_BYTES) return false;
-            if (there == 0) return true;
             if (whole != NONE && (end > whole || slice.last && end != whole)) return false;
             return !slice.last || furthestEnd <= end;
         }
@@ -839,7 +823,11 @@ public final class StubbornBridges {
 
         /** Puts the bytes of a slice that fits. */
         void lay(Slice slice, boolean replaces, int tick) {
-            if (there == 0) makeReady(tick);
+            if (there == 0) {
+                firstPut = tick;
+                // A copy takes cells over only if some are in use.
+                for (int i = 0; i < cells.length; i++) cells[i] = 0L;
+            }
             int end = slice.offset + slice.length;
             for (int at = slice.offset; at < end; at++) {
                 boolean isEmpty = cell(at) == 0;
@@ -850,13 +838,6 @@ public final class StubbornBridges {
             if (slice.last) whole = end;
         }
 
-        private void makeReady(int tick) {
-            for (int i = 0; i < cells.length; i++) cells[i] = 0L;
-            firstPut = tick;
-            furthestEnd = 0;
-            whole = NONE;
-        }
-
         void end(int newState, int tick) {
             state = newState;
             doneAt = tick;
@@ -864,7 +845,7 @@ public final class StubbornBridges {
         }
 
         boolean isComplete() {
-            return there > 0 && there == whole;
+            return there == whole;
         }
 
         /** Of a complete parcel. */
@@ -1022,7 +1003,6 @@ public final class StubbornBridges {
         boolean readOrder() {
             if (at > 0 && !take(';')) return false;
             kind = here();
-            marked = false;
             if (kind == 's') {
                 at++;
                 return readNode(0) && take('>') && readNode(1) && take('*') && readNumber(2) && readMark('!');

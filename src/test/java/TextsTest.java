@@ -65,6 +65,12 @@ public final class TextsTest {
         fault("t00", 2);
         fault("t5000", 4);
         fault("t9999", 4);
+        fault("t5001", 4);
+        fault("t5009", 4);
+        fault("t1:", 2);
+        fault("t1/", 2);
+        fault("t:", 1);
+        fault("t/", 1);
         fault("t49990", 5);
         fault("t499x", 4);
         fault("t-1", 1);

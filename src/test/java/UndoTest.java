@@ -10,6 +10,8 @@ public final class UndoTest {
         undoBringsBytesBack();
         undoLeavesPadAndSlots();
         undoneThenNew();
+        restoredThenNew();
+        savedParcelsAreOthers();
         saveAnswers();
         restoreAnswers();
         restoreKeepsPadAndHistory();
@@ -184,6 +186,80 @@ public final class UndoTest {
         Checks.due("25: dropped", x.ofParcel(0, 13), 0);
         Checks.due("25: made", x.count(4), 1);
         Checks.due("25: reasons", x.count(14), 0);
+    }
+
+    private static void restoredThenNew() {
+        StubbornBridges x = new StubbornBridges();
+        x.save(0);
+        x.bridge(0, 1, 16, 1, 1000);
+        x.route(0, 1, 0);
+        x.mend(0, 16, 2);
+        x.send(0, 1, 16, 9, 41);
+        x.send(0, 1, 16, 9, 41);
+        x.ticks(2);
+        x.forge(1, 8, 8, 1, 9);
+        x.ticks(2);
+        x.restore(0);
+        x.bridge(2, 3, 30, 4, 5);
+        int[] bridge = {2, 3, 30, 4, 5, 0, 0, 0, 0};
+        for (int what = 0; what < 9; what++) Checks.due("27: a new bridge, " + what, x.ofBridge(0, what), bridge[what]);
+        x.send(4, 5, 2, 0, 40);
+        x.send(5, 4, 2, 0, 40);
+        int[] parcel = {5, 4, 2, 0, 0, 0, 1, 1, 0, -6, 0, -6, 7, 0};
+        for (int what = 0; what < 14; what++) Checks.due("27: a new parcel, " + what, x.ofParcel(1, what), parcel[what]);
+        x.forge(1, 20, 1, 0, 0);
+        x.ticks(1);
+        Checks.due("27: nothing is there from before", x.byteAt(1, 8), -6);
+        Checks.due("27: one byte is there", x.ofParcel(1, 8), 1);
+        Checks.due("27: no length from before", x.ofParcel(1, 9), -6);
+    }
+
+    /** Two slots with a bridge 0 and a parcel 0 each, which have nothing in common. */
+    private static void savedParcelsAreOthers() {
+        StubbornBridges x = new StubbornBridges();
+        x.save(0);
+        x.ticks(5);
+        x.node(1, 0, 30, 100);
+        x.bridge(0, 1, 24, 1, 10);
+        x.bridge(1, 0, 24, 1, 10);
+        x.route(0, 2, 0);
+        x.route(1, 2, 1);
+        x.mend(0, 24, 99);
+        x.send(0, 2, 16, 200, 6);
+        x.ticks(10);
+        x.forge(0, 3, 4, 1, 9);
+        x.ticks(1);
+        Checks.due("26: one", x.save(1), 16);
+        x.restore(0);
+        x.node(1, 2, 7, 1000);
+        x.bridge(5, 6, 1500, 50, 1);
+        x.send(7, 3, 4000, 9, 41);
+        x.forge(0, 1000, 1000, 0, 250);
+        x.ticks(300);
+        Checks.due("26: the other", x.save(0), 300);
+        Checks.due("27: one", x.restore(1), 16);
+        int[] node = {0, 30, 100};
+        for (int what = 0; what < 3; what++) Checks.due("27: node, " + what, x.ofNode(1, what), node[what]);
+        int[] bridge = {0, 1, 24, 1, 10, 99, 2, 0, 48};
+        for (int what = 0; what < 9; what++) Checks.due("27: bridge, " + what, x.ofBridge(0, what), bridge[what]);
+        int sum = 0;
+        for (int i = 0; i < 16; i++) sum += (200 * 31 + i * 7) % 256;
+        int[] parcel = {0, 2, 16, 200, 0, 0, 1, 0, 4, 7, 0, -6, sum, 1};
+        for (int what = 0; what < 14; what++) Checks.due("27: parcel, " + what, x.ofParcel(0, what), parcel[what]);
+        Checks.due("27: byte", x.byteAt(0, 3), (9 * 31 + 21) % 256);
+        Checks.due("27: time-out", x.doneIn(0), 60);
+        x.forge(0, 0, 6, 1, 9);
+        x.ticks(1);
+        Checks.due("27: bytes behind its end are there", x.count(16), 1);
+        x.resend(0);
+        x.ticks(20);
+        Checks.due("27: three hops, as before", x.ofBridge(0, 6) + x.ofBridge(1, 6), 6);
+        Checks.due("27: the other", x.restore(0), 300);
+        int[] other = {7, 3, 4000, 9, 1, 3, 1, 0, 0, -6, 0, 60};
+        for (int what = 0; what < 12; what++) Checks.due("27: other, " + what, x.ofParcel(0, what), other[what]);
+        Checks.due("27: its tick", x.count(0), 300);
+        x.undo();
+        Checks.due("27: undone", x.ofParcel(0, 3), 200);
     }
 
     private static void saveAnswers() {
