@@ -29,6 +29,15 @@ final class Checks {
         return number;
     }
 
+    /** All that is told of the whole, the bridge 0 and the parcel 0. */
+    static int[] all(StubbornBridges x) {
+        int[] all = new int[26 + 9 + 14];
+        for (int i = 0; i < 26; i++) all[i] = x.count(i);
+        for (int i = 0; i < 9; i++) all[26 + i] = x.ofBridge(0, i);
+        for (int i = 0; i < 14; i++) all[35 + i] = x.ofParcel(0, i);
+        return all;
+    }
+
     static void finish() {
         System.out.println(asked + " answers, " + wrong + " wrong");
         if (wrong != 0) System.exit(1);

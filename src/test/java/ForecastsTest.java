@@ -191,23 +191,15 @@ public final class ForecastsTest {
         x.mend(0, 30, 5);
         x.send(0, 1, 200, 0, 41);
         x.ticks(2);
-        int[] before = all(x);
+        int[] before = Checks.all(x);
         x.doneIn(0);
         x.stateIn(0, 100);
         x.leastRoom(0, 1);
         x.slices(0, 1, 4000);
         x.time(0, 1, 4000);
         x.gap(0, 0);
-        int[] after = all(x);
+        int[] after = Checks.all(x);
         for (int i = 0; i < before.length; i++) Checks.due("18: nothing changes, " + i, after[i], before[i]);
-    }
-
-    private static int[] all(StubbornBridges x) {
-        int[] all = new int[26 + 9 + 14];
-        for (int i = 0; i < 26; i++) all[i] = x.count(i);
-        for (int i = 0; i < 9; i++) all[26 + i] = x.ofBridge(0, i);
-        for (int i = 0; i < 14; i++) all[35 + i] = x.ofParcel(0, i);
-        return all;
     }
 
     private static void gaps() {

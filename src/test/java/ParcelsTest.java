@@ -493,6 +493,14 @@ public final class ParcelsTest {
         x.forge(4, 0, 100, 0, 0);
         x.ticks(1);
         Checks.due("space: of another node", x.ofParcel(4, 5), 0);
+        x.send(2, 1, 10, 0, 41);
+        x.send(2, 1, 100, 0, 41);
+        x.forge(5, 0, 1, 0, 0);
+        x.ticks(1);
+        x.forge(6, 0, 64, 0, 0);
+        x.ticks(1);
+        Checks.due("space: one of a single byte", x.ofParcel(5, 5), 4);
+        Checks.due("space: is enough", x.ofParcel(6, 5), 0);
     }
 
     /** Step 4 of putting together is said of every slice that is put, also of one that is refused. */

@@ -115,24 +115,16 @@ public final class UndoTest {
         x.route(0, 1, 0);
         x.mend(0, 24, 2);
         x.send(0, 1, 40, 0, 41);
-        int[] before = UndoTest.all(x);
+        int[] before = Checks.all(x);
         x.ticks(1);
         x.ticks(30);
         x.undo();
         x.undo();
-        int[] after = UndoTest.all(x);
+        int[] after = Checks.all(x);
         for (int i = 0; i < before.length; i++) Checks.due("25: all " + i, after[i], before[i]);
         x.ticks(31);
         Checks.due("25: and on from there", x.ofBridge(0, 7), 1);
         Checks.due("25: bytes there", x.ofParcel(0, 8), 24);
-    }
-
-    private static int[] all(StubbornBridges x) {
-        int[] all = new int[26 + 9 + 14];
-        for (int i = 0; i < 26; i++) all[i] = x.count(i);
-        for (int i = 0; i < 9; i++) all[26 + i] = x.ofBridge(0, i);
-        for (int i = 0; i < 14; i++) all[35 + i] = x.ofParcel(0, i);
-        return all;
     }
 
     private static void undoBringsBytesBack() {
@@ -154,6 +146,15 @@ public final class UndoTest {
         x.undo();
         Checks.due("25: before all", x.byteAt(0, 10), -6);
         Checks.due("25: none", x.ofParcel(0, 8), 0);
+        x.undo();
+        x.forge(0, 8, 1, 0, 1);
+        x.ticks(1);
+        x.save(0);
+        x.ticks(100);
+        x.forge(0, 8, 1, 0, 2);
+        x.restore(0);
+        Checks.due("27: a single byte", x.byteAt(0, 8), 31 + 56);
+        Checks.due("27: and no other", x.byteAt(0, 10), -6);
     }
 
     private static void undoLeavesPadAndSlots() {
