@@ -76,11 +76,15 @@ public final class EdgesOfAccountsTest {
     private static void orderOfErrors() {
         StubbornBridges x = new StubbornBridges();
         for (int i = 0; i < 2; i++) {
-            for (int number : new int[] {-1, i == 0 ? 0 : 1, 16, 40, MIN, MAX}) {
-                Checks.due("10: no node", x.ofNode(number < 0 ? number : number + 8 < 0 ? MIN : number + 8, 5), -1);
-                Checks.due("11: no bridge", x.ofBridge(number, 9), -1);
-                Checks.due("12: no parcel", x.ofParcel(number, 14), -1);
-                Checks.due("13: no parcel", x.byteAt(number, 4000), -1);
+            for (int number : new int[] {MIN, -6, -1, i, 16, 40, MAX}) {
+                for (int what = -1; what <= 18; what++) {
+                    Checks.due("11: no bridge " + number + ", what " + what, x.ofBridge(number, what), -1);
+                    Checks.due("12: no parcel " + number + ", what " + what, x.ofParcel(number, what), -1);
+                }
+                for (int at : new int[] {-1, 0, 3999, 4000}) Checks.due("13: no parcel " + number, x.byteAt(number, at), -1);
+            }
+            for (int node : new int[] {MIN, -6, -1, 8, 9, MAX}) {
+                for (int what = -1; what <= 18; what++) Checks.due("10: no node " + node + ", what " + what, x.ofNode(node, what), -1);
             }
             x.bridge(0, 1, 16, 1, 1);
             x.send(0, 1, 1, 0, 41);

@@ -167,7 +167,7 @@ public final class EdgesOfForecastsTest {
         Checks.due("17: all would be lost", x.time(0, 1, 24), 1);
         Checks.due("16: no count", x.ofBridge(0, 6), 0);
         x.send(0, 1, 1, 0, 41);
-        while (x.count(3) < 300) x.resend(0);
+        for (int i = x.count(3); i < 300; i++) x.resend(0);
         Checks.due("16: 300 under way", x.slices(0, 1, 4000), 500);
         Checks.due("17: 300 under way", x.time(0, 1, 4000), 1);
     }

@@ -128,12 +128,12 @@ public final class EdgesOfParcelsTest {
             Checks.due("6: size", x.send(0, 1, 0, 0, 2), -2);
             Checks.due("6: seed", x.send(0, 1, 1, 256, 2), -2);
             Checks.due("6: how", x.send(0, 1, 1, 0, 1), -2);
-            while (x.count(2) < 40) x.send(0, 1, 1, 0, 2);
+            for (int k = x.count(2); k < 40; k++) x.send(0, 1, 1, 0, 2);
         }
         Checks.due("6: at last too many", x.send(0, 1, 1, 0, 2), -4);
         StubbornBridges y = new StubbornBridges();
         y.send(0, 1, 1, 0, 2);
-        while (y.count(3) < 300) y.resend(0);
+        for (int i = y.count(3); i < 300; i++) y.resend(0);
         Checks.due("6: 300 under way, no node", y.send(8, 1, 1, 0, 2), -1);
         Checks.due("6: 300 under way, no how", y.send(0, 1, 1, 0, 0), -2);
         Checks.due("6: 300 under way", y.send(0, 1, 1, 0, 2), -4);
@@ -184,7 +184,7 @@ public final class EdgesOfParcelsTest {
         x.ticks(1);
         x.send(0, 1, 5, 0, 41);
         Checks.due("7: whole", x.resend(0), -5);
-        while (x.count(3) < 299) x.forge(1, 0, 1, 0, 0);
+        for (int i = x.count(3); i < 299; i++) x.forge(1, 0, 1, 0, 0);
         Checks.due("7: 299 under way, whole", x.resend(0), -5);
         Checks.due("7: 299 under way", x.resend(1), 2);
         Checks.due("7: 300 under way, no parcel", x.resend(2), -1);
@@ -303,7 +303,7 @@ public final class EdgesOfParcelsTest {
             Checks.due("8: length", x.forge(0, 0, 1501, 0, 0), -2);
             Checks.due("8: last", x.forge(0, 0, 1, 2, 0), -2);
             Checks.due("8: seed", x.forge(0, 0, 1, 0, 256), -2);
-            while (x.count(3) < 300) x.resend(0);
+            for (int k = x.count(3); k < 300; k++) x.resend(0);
         }
         Checks.due("8: at last too many", x.forge(0, 0, 1, 0, 0), -4);
     }

@@ -266,10 +266,10 @@ public final class EdgesOfTextsTest {
         Checks.due("24: broken by the seed 255", x.ofParcel(0, 5), 2);
         StubbornBridges y = new StubbornBridges();
         y.send(0, 1, 5, 0, 41);
-        while (y.count(3) < 300) y.resend(0);
+        for (int i = y.count(3); i < 300; i++) y.resend(0);
         for (String full : new String[] {"s0>1*5", "r0", "f0+0*1"}) order(y, full, 0);
         order(y, "t1;f0+0*1;r0;s0>1*5", 4);
-        while (y.count(2) < 40) y.send(0, 1, 5, 0, 41);
+        for (int i = y.count(2); i < 40; i++) y.send(0, 1, 5, 0, 41);
         order(y, "r39;s0>1*5;r39", 1);
     }
 
@@ -282,7 +282,7 @@ public final class EdgesOfTextsTest {
         Checks.due("24: beyond 4000", x.count(16), 1);
         Checks.due("24: put, and timed out", x.ofParcel(0, 5), 3);
         Checks.due("24: sent twice", x.ofParcel(1, 6), 2);
-        while (x.count(2) < 40) x.send(0, 1, 5, 0, 41);
+        for (int i = x.count(2); i < 40; i++) x.send(0, 1, 5, 0, 41);
         order(x, "r39;f39+0*1;t1", 3);
         Checks.type(x, "t500;".repeat(15) + "t500");
         Checks.due("24: 16 times 500", x.carryOut(), 16);

@@ -171,7 +171,7 @@ public final class EdgesOfTicksTest {
     private static void threeHundredAndThisOne() {
         StubbornBridges x = Checks.pair(16, 50, 1000);
         x.send(0, 1, 8, 0, 41);
-        while (x.count(3) < 300) x.resend(0);
+        for (int i = x.count(3); i < 300; i++) x.resend(0);
         x.ticks(1);
         Checks.due("300: each goes on beside 299 others", x.count(15), 0);
         Checks.due("300: all came to the bridge", x.ofBridge(0, 6), 300);
@@ -208,7 +208,7 @@ public final class EdgesOfTicksTest {
         StubbornBridges x = Checks.pair(16, 50, 1000);
         x.mend(0, 16, 4);
         x.send(0, 1, 8, 0, 41);
-        while (x.count(3) < 299) x.resend(0);
+        for (int i = x.count(3); i < 299; i++) x.resend(0);
         x.ticks(1);
         Checks.due("turns: 74 of 299 are lost", x.count(14), 74);
         Checks.due("turns: 225 go on", x.count(3), 225);

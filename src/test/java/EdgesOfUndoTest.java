@@ -10,6 +10,7 @@ public final class EdgesOfUndoTest {
         everyKindOfChangeIsUndone();
         manyStepsBack();
         undoBringsWhatIsKnownBack();
+        undoBringsASingleByteBack();
         undoKeepsTheSlots();
         slotsAtTheirEdges();
         saveReturnsTheTick();
@@ -195,6 +196,33 @@ public final class EdgesOfUndoTest {
         x.forge(0, 20, 5, 1, 0);
         x.ticks(1);
         Checks.due("25: a byte lies behind it", x.count(16), 1);
+    }
+
+    private static void undoBringsASingleByteBack() {
+        for (int at : new int[] {0, 1, 6, 7, 3998, 3999}) {
+            StubbornBridges x = new StubbornBridges();
+            x.node(1, 1, 60, 8000);
+            x.send(0, 1, 20, 0, 41);
+            x.forge(0, at, 1, 0, 5);
+            x.ticks(1);
+            x.save(0);
+            x.forge(0, at, 1, 0, 6);
+            x.ticks(1);
+            Checks.due("25: another byte at " + at, x.byteAt(0, at), Checks.byteOf(6, at));
+            x.undo();
+            Checks.due("25: the byte before it", x.byteAt(0, at), Checks.byteOf(5, at));
+            x.ticks(1);
+            x.restore(0);
+            Checks.due("27: the byte that was saved", x.byteAt(0, at), Checks.byteOf(5, at));
+            x.forge(0, at, 1, 0, 7);
+            Checks.due("18: foreseen", x.stateIn(0, 1), 0);
+            Checks.due("18: nothing changes", x.byteAt(0, at), Checks.byteOf(5, at));
+            x.ticks(60);
+            Checks.due("25: timed out", x.byteAt(0, at), -6);
+            x.undo();
+            Checks.due("25: there again", x.byteAt(0, at), Checks.byteOf(5, at));
+            Checks.due("25: one byte", x.ofParcel(0, 8), 1);
+        }
     }
 
     private static void undoKeepsTheSlots() {

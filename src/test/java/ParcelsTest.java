@@ -588,7 +588,7 @@ public final class ParcelsTest {
         x.send(0, 1, 2, 182, 41);
         // 182 * 31 = 5642 = 22 * 256 + 10, so the bytes are 10 and 17. Three bytes from 2 on, 2, 9 and 16, have that sum.
         int seed = 0;
-        while (seed * 31 % 256 != 2) seed++;
+        for (int k = 0; k < 256 && seed * 31 % 256 != 2; k++) seed++;
         x.forge(0, 0, 3, 1, seed);
         x.ticks(1);
         Checks.due("broken: sum", x.ofParcel(0, 12), 27);

@@ -121,9 +121,9 @@ public final class RefusedCallsTest {
     /** TOO_MANY, each time on an object that is full of what there are too many of. */
     private static void tooMany() {
         StubbornBridges x = new StubbornBridges();
-        while (x.count(1) < 16) x.bridge(0, 1, 100, 1, 1);
-        while (x.count(2) < 40) x.send(0, 1, 9, 0, 41);
-        while (x.count(3) < 300) x.forge(0, 0, 1, 0, 0);
+        for (int i = x.count(1); i < 16; i++) x.bridge(0, 1, 100, 1, 1);
+        for (int i = x.count(2); i < 40; i++) x.send(0, 1, 9, 0, 41);
+        for (int i = x.count(3); i < 300; i++) x.forge(0, 0, 1, 0, 0);
         Checks.type(x, "t1;".repeat(26) + "t1");
         int[] before = Checks.everything(x);
         Checks.due("bridge", x.bridge(2, 3, 16, 1, 1), -4);

@@ -26,6 +26,7 @@ public final class SourceTest {
         face();
         privateNames();
         words();
+        methodsAreShort();
         Checks.finish();
     }
 
@@ -101,5 +102,22 @@ public final class SourceTest {
         String code = source.replaceAll("(?s)/\\*.*?\\*/", "").replaceAll("//[^\n]*", "");
         Matcher m = Pattern.compile(RULED_OUT).matcher(code);
         while (m.find()) Checks.due("ruled out: " + m.group(), 1, 0);
+    }
+
+    /** A method begins with a line that ends with "{" and ends with a "}" that stands as far to the right. */
+    private static void methodsAreShort() throws IOException {
+        List<String> lines = Files.readAllLines(Path.of("src/main/java/StubbornBridges.java"));
+        Pattern head = Pattern.compile("( {4}| {8})(?! )(?!.*class).*\\) \\{");
+        int methods = 0;
+        for (int first = 0; first < lines.size(); first++) {
+            Matcher m = head.matcher(lines.get(first));
+            boolean isHead = m.matches() && !lines.get(first).matches(" *(if|for|while|switch|do|else|\\}).*");
+            if (!isHead) continue;
+            methods++;
+            int last = first;
+            while (last < lines.size() && !lines.get(last).equals(m.group(1) + "}")) last++;
+            Checks.due("at most 60 lines from " + (first + 1) + " on", last - first < 60 ? 1 : 0, 1);
+        }
+        Checks.due("methods were found", methods > 80 ? 1 : 0, 1);
     }
 }
