@@ -16,8 +16,6 @@ public final class StubbornBridges {
     private static final int SUM_BASE = 65521;
     private static final int MOST_CHARACTERS = 80, MOST_IN_ORDER = 4999, ORDER_SEED = 255;
     private static final int HISTORY = 6, SLOTS = 2;
-    /** No error; the codes of errors are below. */
-    private static final int FINE = 0;
 
     private final World live = new World();
     /** Lent to the forecasts, which let ticks pass in it. */
@@ -87,24 +85,15 @@ public final class StubbornBridges {
     // ---- parcels
 
     public int send(int from, int to, int size, int seed, int how) {
-        int error = live.errorOfSending(from, to, size, seed, how);
-        if (error != FINE) return error;
-        history.keep(live);
-        return live.sendParcel(from, to, size, seed, how);
+        return live.sendParcel(from, to, size, seed, how, history);
     }
 
     public int resend(int parcel) {
-        int error = live.errorOfResending(parcel);
-        if (error != FINE) return error;
-        history.keep(live);
-        return live.launch(parcel);
+        return live.sendAgain(parcel, history);
     }
 
     public int forge(int parcel, int offset, int length, int last, int seed) {
-        int error = live.errorOfForging(parcel, offset, length, last, seed);
-        if (error != FINE) return error;
-        history.keep(live);
-        return live.forgeSlice(parcel, offset, length, last, seed);
+        return live.forgeSlice(parcel, offset, length, last, seed, history);
     }
 
     public int ticks(int ticks) {
@@ -155,7 +144,7 @@ public final class StubbornBridges {
         int bridges = live.findPath(from, to);
         if (bridges == NONE) return NONE;
         int least = MOST_ROOM;
-        for (int i = 0; i < bridges; i++) {
+        for (int i = 0; i < bridges && i < live.path.length; i++) {
             Bridge bridge = live.path[i];
             if (bridge != null) least = Math.min(least, bridge.room);
         }
@@ -182,7 +171,8 @@ public final class StubbornBridges {
         if (!isTicks(ticks)) return BAD_VALUE;
         // A state that is not ON_ITS_WAY never becomes another one.
         if (asked.state != ON_ITS_WAY) return asked.state;
-        return foresee(parcel, ticks).state;
+        Parcel then = foresee(parcel, ticks);
+        return then == null ? NO_SUCH : then.state;
     }
 
     public int doneIn(int parcel) {
@@ -190,7 +180,7 @@ public final class StubbornBridges {
         if (asked == null) return NO_SUCH;
         if (asked.state != ON_ITS_WAY) return 0;
         Parcel then = foresee(parcel, LONGEST_FORECAST);
-        return then.state == ON_ITS_WAY ? NONE : then.doneAt - live.tick + 1;
+        return then == null || then.state == ON_ITS_WAY ? NONE : then.doneAt - live.tick + 1;
     }
 
     public int gap(int parcel, int what) {
@@ -204,11 +194,7 @@ public final class StubbornBridges {
     // ---- texts
 
     public int put(long characters) {
-        int more = Pad.charactersIn(characters);
-        if (more == 0) return BAD_VALUE;
-        if (pad.length + more > MOST_CHARACTERS) return TOO_MANY;
-        pad.append(characters, more);
-        return pad.length;
+        return pad.append(characters);
     }
 
     public int wipe() {
@@ -238,9 +224,7 @@ public final class StubbornBridges {
     // ---- undo, saving
 
     public int undo() {
-        if (history.kept == 0) return NOT_POSSIBLE;
-        history.bringBack(live);
-        return history.kept;
+        return history.bringBack(live) ? history.kept : NOT_POSSIBLE;
     }
 
     public int save(int slot) {
@@ -281,11 +265,11 @@ public final class StubbornBridges {
         return (seed * 31 + at * 7 + at / 256) & 255;
     }
 
-    /** The parcel (which must be there) as it will be if nothing else is done. */
+    /** The parcel as it will be if nothing else is done; null if there is no such parcel. */
     private Parcel foresee(int parcel, int ticks) {
         forecast.copyFrom(live);
         forecast.pass(ticks);
-        return forecast.parcels[parcel];
+        return forecast.parcelAt(parcel);
     }
 
     /** How many slices come out behind the bridges first..end-1; the depth is at most the number of nodes. */
@@ -364,60 +348,66 @@ public final class StubbornBridges {
             return isWithin(parcel, 0, parcelCount - 1) ? parcels[parcel] : null;
         }
 
-        // ---- sending and forging
+        // ---- sending and forging: a recorder keeps the state before them; the orders of a text have none
 
-        int errorOfSending(int from, int to, int size, int seed, int how) {
+        int sendParcel(int from, int to, int size, int seed, int how, History recorder) {
             if (!isPair(from, to)) return NO_SUCH;
             if (!isWithin(size, 1, MOST_BYTES) || !isWithin(seed, 0, MOST_SEED)) return BAD_VALUE;
             if (!isWithin(how, 2, 2 * MOST_HOPS + 1)) return BAD_VALUE;
-            return parcelCount >= MOST_PARCELS || isFull() ? TOO_MANY : FINE;
-        }
-
-        int sendParcel(int from, int to, int size, int seed, int how) {
+            Slice slice = freeSlice();
+            if (slice == null || parcelCount >= parcels.length) return TOO_MANY;
+            keepIn(recorder);
             int number = parcelCount;
-            parcelCount++;
             parcels[number].begin(from, to, size, seed, how);
-            launch(number);
+            parcelCount++;
+            launch(slice, number, parcels[number]);
             return number;
         }
 
-        int errorOfResending(int parcel) {
-            Parcel asked = parcelAt(parcel);
-            if (asked == null) return NO_SUCH;
-            if (isFull()) return TOO_MANY;
-            return asked.state != ON_ITS_WAY ? NOT_POSSIBLE : FINE;
+        /** Answers how often the parcel has been sent. */
+        int sendAgain(int number, History recorder) {
+            Parcel parcel = parcelAt(number);
+            if (parcel == null) return NO_SUCH;
+            Slice slice = freeSlice();
+            if (slice == null) return TOO_MANY;
+            if (parcel.state != ON_ITS_WAY) return NOT_POSSIBLE;
+            keepIn(recorder);
+            launch(slice, number, parcel);
+            return parcel.times;
         }
 
-        /** Sends all of a parcel in one slice, and answers how often that has been done. */
-        int launch(int parcel) {
-            Parcel sent = parcels[parcel];
-            Slice slice = slices[listed];
-            slice.parcel = parcel;
-            slice.span(0, sent.size, true);
-            slice.hops = sent.hops;
-            slice.seed = sent.seed;
-            slice.arrive(sent.from, tick);
-            countNew();
-            sent.times++;
-            return sent.times;
-        }
-
-        int errorOfForging(int parcel, int offset, int length, int last, int seed) {
-            if (parcelAt(parcel) == null) return NO_SUCH;
+        /** Answers how many slices are under way then. */
+        int forgeSlice(int number, int offset, int length, int last, int seed, History recorder) {
+            Parcel parcel = parcelAt(number);
+            if (parcel == null) return NO_SUCH;
             if (!isWithin(offset, 0, MOST_BYTES - 1) || !isWithin(length, 1, MOST_FORGED)) return BAD_VALUE;
             if (!isWithin(last, 0, 1) || !isWithin(seed, 0, MOST_SEED)) return BAD_VALUE;
-            return isFull() ? TOO_MANY : FINE;
-        }
-
-        int forgeSlice(int parcel, int offset, int length, int last, int seed) {
-            Slice slice = slices[listed];
-            slice.parcel = parcel;
+            Slice slice = freeSlice();
+            if (slice == null) return TOO_MANY;
+            keepIn(recorder);
+            slice.begin(number, seed, 0);
             slice.span(offset, length, last == 1);
-            slice.hops = 0;
-            slice.seed = seed;
-            slice.arrive(parcels[parcel].to, tick);
+            slice.arrive(parcel.to, tick);
             countNew();
             return underWay;
+        }
+
+        private void keepIn(History recorder) {
+            if (recorder != null) recorder.keep(this);
+        }
+
+        /** Sends all of a parcel in one slice. */
+        private void launch(Slice slice, int number, Parcel parcel) {
+            slice.begin(number, parcel.seed, parcel.hops);
+            slice.span(0, parcel.size, true);
+            slice.arrive(parcel.from, tick);
+            countNew();
+            parcel.times++;
+        }
+
+        /** The place for one more slice under way; null if there are 300. */
+        private Slice freeSlice() {
+            return isFull() || listed >= slices.length ? null : slices[listed];
         }
 
         private boolean isFull() {
@@ -430,28 +420,15 @@ public final class StubbornBridges {
             made++;
         }
 
-        /** Carries out the order that was read last, if it does not return an error; tells whether it did. */
+        /** Carries out the order that was read last; tells whether it returned no error. */
         boolean obey(Pad order) {
             int a = order.numbers[0], b = order.numbers[1], c = order.numbers[2];
-            if (errorOf(order) != FINE) return false;
-            if (order.kind == 's') {
-                sendParcel(a, b, c, 0, order.how());
-            } else if (order.kind == 'r') {
-                launch(a);
-            } else if (order.kind == 'f') {
-                forgeSlice(a, b, c, order.last(), ORDER_SEED);
-            } else {
-                pass(a);
-            }
+            if (order.kind == 's') return sendParcel(a, b, c, 0, order.how(), null) >= 0;
+            if (order.kind == 'r') return sendAgain(a, null) >= 0;
+            if (order.kind == 'f') return forgeSlice(a, b, c, order.last(), ORDER_SEED, null) >= 0;
+            if (!isTicks(a)) return false;
+            pass(a);
             return true;
-        }
-
-        private int errorOf(Pad order) {
-            int a = order.numbers[0], b = order.numbers[1], c = order.numbers[2];
-            if (order.kind == 's') return errorOfSending(a, b, c, 0, order.how());
-            if (order.kind == 'r') return errorOfResending(a);
-            if (order.kind == 'f') return errorOfForging(a, b, c, order.last(), ORDER_SEED);
-            return isTicks(a) ? FINE : BAD_VALUE;
         }
 
         // ---- ticks
@@ -476,53 +453,61 @@ public final class StubbornBridges {
             int next = end;
             for (int i = 0; i < listed; i++) next = Math.min(next, slices[i].tick);
             for (Parcel parcel : parcels) {
-                if (parcel.there > 0) next = Math.min(next, parcel.firstPut + nodes[parcel.to].timeOut);
+                if (parcel.there > 0) next = Math.min(next, overdueAt(parcel));
             }
             return Math.max(tick, next);
         }
 
+        /** The first tick in which a parcel of which bytes are there has timed out. */
+        private int overdueAt(Parcel parcel) {
+            Node node = nodeAt(parcel.to);
+            return parcel.firstPut + (node == null ? 0 : node.timeOut);
+        }
+
         private void treat(Slice slice) {
-            Parcel parcel = parcels[slice.parcel];
-            Bridge bridge = bridgeAt(nodes[slice.node].routes[parcel.to]);
+            Parcel parcel = parcelAt(slice.parcel);
+            Node node = nodeAt(slice.node);
+            if (parcel == null || node == null) return;
+            Bridge bridge = bridgeAt(node.routeTo(parcel.to));
             underWay--;
             if (slice.node == parcel.to) {
-                join(slice, parcel);
+                join(slice, parcel, node);
             } else if (slice.hops <= 0) {
-                drop(slice, NO_HOPS);
+                drop(slice, parcel, NO_HOPS);
             } else if (bridge == null) {
-                drop(slice, NO_ROUTE);
+                drop(slice, parcel, NO_ROUTE);
             } else if (bridge.bears(slice.length)) {
-                goOn(slice, bridge);
+                goOn(slice, parcel, bridge);
             } else if (parcel.mayBeCut) {
-                cutUp(slice, bridge);
+                cutUp(slice, parcel, bridge);
             } else {
-                drop(slice, UNCUT);
+                drop(slice, parcel, UNCUT);
             }
         }
 
-        private void cutUp(Slice slice, Bridge bridge) {
+        private void cutUp(Slice slice, Parcel parcel, Bridge bridge) {
             int end = slice.offset + slice.length;
             int piece = bridge.longestPiece();
             int full = bridge.fullPieces(slice.length);
             cut++;
             slice.gone = true;
-            for (int i = 0; i <= full; i++) {
+            for (int i = 0; i <= full && listed < slices.length; i++) {
                 Slice part = slices[listed];
                 int offset = slice.offset + i * piece;
                 part.copyFrom(slice);
                 part.span(offset, i < full ? piece : end - offset, slice.last && i == full);
                 made++;
-                goOn(part, bridge);
+                goOn(part, parcel, bridge);
                 if (!part.gone) listed++;
             }
         }
 
         /** Lets a slice that is not counted as under way go over a bridge, or drops it. */
-        private void goOn(Slice slice, Bridge bridge) {
+        private void goOn(Slice slice, Parcel parcel, Bridge bridge) {
             if (isFull()) {
-                drop(slice, CROWDED);
+                drop(slice, parcel, CROWDED);
             } else if (bridge.loses()) {
-                drop(slice, LOST);
+                drop(slice, parcel, LOST);
             } else {
                 bridge.carried += slice.length + HEAD;
                 slice.hops--;
@@ -531,23 +516,22 @@ public final class StubbornBridges {
             }
         }
 
-        private void drop(Slice slice, int reason) {
+        private void drop(Slice slice, Parcel parcel, int reason) {
             slice.gone = true;
             dropped[reason]++;
-            parcels[slice.parcel].lost++;
+            parcel.lost++;
         }
 
-        /** Puts a slice to the others of its parcel. */
-        private void join(Slice slice, Parcel parcel) {
+        /** Puts a slice to the others of its parcel, at the node to which that goes. */
+        private void join(Slice slice, Parcel parcel, Node node) {
             if (parcel.state != ON_ITS_WAY) {
-                drop(slice, LATE);
+                drop(slice, parcel, LATE);
                 return;
             }
             if (!parcel.fits(slice)) {
-                drop(slice, MISFIT);
+                drop(slice, parcel, MISFIT);
                 return;
             }
-            Node node = nodes[parcel.to];
             slice.gone = true;
             joined++;
             if (node.way == REFUSES && parcel.overlaps(slice)) {
@@ -578,8 +562,7 @@ public final class StubbornBridges {
 
         private void giveUpOverdue() {
             for (Parcel parcel : parcels) {
-                boolean isOverdue = parcel.there > 0 && tick - parcel.firstPut >= nodes[parcel.to].timeOut;
-                if (isOverdue) parcel.end(TIMED_OUT, tick);
+                if (parcel.there > 0 && tick >= overdueAt(parcel)) parcel.end(TIMED_OUT, tick);
             }
         }
 
@@ -655,13 +638,14 @@ public final class StubbornBridges {
 
         /** Walks along the routes, keeps the bridges in path, and answers how many they are, or NONE. */
         int findPath(int from, int to) {
-            int node = from;
-            for (int i = 0; i < NODES; i++) {
-                if (node == to) return i;
-                Bridge bridge = bridgeAt(nodes[node].routes[to]);
+            int at = from;
+            for (int i = 0; i < path.length; i++) {
+                if (at == to) return i;
+                Node node = nodeAt(at);
+                Bridge bridge = node == null ? null : bridgeAt(node.routeTo(to));
                 if (bridge == null) return NONE;
                 path[i] = bridge;
-                node = bridge.to;
+                at = bridge.to;
             }
             return NONE;
         }
@@ -686,7 +670,11 @@ public final class StubbornBridges {
             if (what == 0) return way;
             if (what == 1) return timeOut;
             if (what == 2) return space;
-            return isWithin(what, 10, 10 + NODES - 1) ? routes[what - 10] : BAD_VALUE;
+            return isWithin(what, 10, 10 + NODES - 1) ? routeTo(what - 10) : BAD_VALUE;
+        }
+
+        int routeTo(int node) {
+            return isWithin(node, 0, routes.length - 1) ? routes[node] : NONE;
         }
     }
 
@@ -794,10 +782,12 @@ public final class StubbornBridges {
         }
 
         int cell(int at) {
+            if (at < 0 || at >= MOST_BYTES) return 0;
             return (int) (cells[at / CELLS_IN_LONG] >>> at % CELLS_IN_LONG * CELL_BITS & CELL_MASK);
         }
 
         private void setCell(int at, int cell) {
+            if (at < 0 || at >= MOST_BYTES) return;
             int index = at / CELLS_IN_LONG, shift = at % CELLS_IN_LONG * CELL_BITS;
             cells[index] = cells[index] & ~(CELL_MASK << shift) | (long) cell << shift;
         }
@@ -899,6 +889,12 @@ public final class StubbornBridges {
         /** Put, dropped or cut in this tick. */
         boolean gone;
 
+        void begin(int number, int newSeed, int newHops) {
+            parcel = number;
+            seed = newSeed;
+            hops = newHops;
+        }
+
         void span(int newOffset, int newLength, boolean isLast) {
             offset = newOffset;
             length = newLength;
@@ -934,7 +930,7 @@ public final class StubbornBridges {
         }
 
         void keep(World world) {
-            states[(oldest + kept) % HISTORY].copyFrom(world);
+            stateAt(kept).copyFrom(world);
             if (kept < HISTORY) {
                 kept++;
             } else {
@@ -942,10 +938,17 @@ public final class StubbornBridges {
             }
         }
 
-        /** Only if a state is kept. */
-        void bringBack(World world) {
+        /** Tells whether a state was kept. */
+        boolean bringBack(World world) {
+            if (kept <= 0) return false;
             kept--;
-            world.copyFrom(states[(oldest + kept) % HISTORY]);
+            world.copyFrom(stateAt(kept));
+            return true;
+        }
+
+        /** Counted from the oldest one; behind the latest one, if all are kept, the oldest one comes again. */
+        private World stateAt(int index) {
+            return states[Math.floorMod(oldest + index, HISTORY)];
         }
     }
 
@@ -961,7 +964,7 @@ public final class StubbornBridges {
         boolean marked;
 
         /** How many characters a number gives; 0 if it must not be appended. */
-        static int charactersIn(long characters) {
+        private static int charactersIn(long characters) {
             int found = 0;
             long rest = characters;
             for (int i = 0; i < 8 && rest != 0L; i++) {
@@ -972,12 +975,16 @@ public final class StubbornBridges {
             return found;
         }
 
-        /** Only if there is place for so many. */
-        void append(long characters, int more) {
+        /** Answers the length then, or an error. */
+        int append(long characters) {
+            int more = charactersIn(characters);
+            if (more == 0) return BAD_VALUE;
+            if (length + more > text.length) return TOO_MANY;
             for (int i = more - 1; i >= 0; i--) {
                 text[length] = (char) (characters >>> 8 * i & 255L);
                 length++;
             }
+            return length;
         }
 
         /** As send() takes it. */

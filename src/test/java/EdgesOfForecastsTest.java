@@ -7,6 +7,7 @@ public final class EdgesOfForecastsTest {
         noneIsReturnedLast();
         leastRoomAlongTheRoutes();
         theLongestWay();
+        oneWayAfterAnother();
         roundAndRound();
         throughTheNode();
         sizesAtTheirEdges();
@@ -111,6 +112,29 @@ public final class EdgesOfForecastsTest {
         Checks.due("15: the last one is gone", x.leastRoom(3, 4), -6);
         Checks.due("16: the last one is gone", x.slices(3, 4, 1), -6);
         Checks.due("17: the last one is gone", x.time(3, 4, 1), -6);
+    }
+
+    /** What was asked before tells nothing: neither a longer way nor a shorter one. */
+    private static void oneWayAfterAnother() {
+        StubbornBridges x = new StubbornBridges();
+        int[] rooms = {1500, 16, 16}, paces = {24, 16, 16};
+        for (int k = 0; k < 3; k++) {
+            x.bridge(k, k + 1, rooms[k], k + 1, paces[k]);
+            for (int to = k + 1; to < 4; to++) x.route(k, to, k);
+        }
+        // From, to, the least room, and of 16 bytes the slices and the ticks.
+        int[][] ways = {{0, 1, 1500, 1, 2}, {0, 2, 16, 2, 5}, {0, 3, 16, 2, 9}, {1, 2, 16, 2, 3}, {1, 3, 16, 2, 7}, {2, 3, 16, 2, 4}};
+        for (int[] before : ways) {
+            for (int[] way : ways) {
+                String told = way[0] + " to " + way[1] + " after " + before[0] + " to " + before[1];
+                x.time(before[0], before[1], 16);
+                Checks.due("15: " + told, x.leastRoom(way[0], way[1]), way[2]);
+                x.time(before[0], before[1], 16);
+                Checks.due("16: " + told, x.slices(way[0], way[1], 16), way[3]);
+                x.time(before[0], before[1], 16);
+                Checks.due("17: " + told, x.time(way[0], way[1], 16), way[4]);
+            }
+        }
     }
 
     /** "NONE if the routes do not lead there": they go round, with the first node in it or not. */
